@@ -517,6 +517,59 @@ public final class CityBankPromises {
         y.close();
         due("all are kept", y.order(0, 1, 5, 5, 0), -3);
         due("bills too", y.bill(0, 1, 5, 5), -3);
+        orderWithoutRoom();
+        lineWithoutRoom();
+    }
+
+    /** A bank with so many lines, more than the calls that the document promises can write. */
+    private static CityBank bankOfLines(int lines) {
+        CityBank x = bank(2);
+        x.terms(1000, 1, 1000, 3, 10, 5, 30, 60);
+        bring(x, 0, 1000);
+        bring(x, 0, 100000);
+        for (int i = 2; i < lines; i++) {
+            x.prolong(0);
+        }
+        due("lines", x.count(6), lines);
+        return x;
+    }
+
+    private static void orderWithoutRoom() {
+        CityBank x = bankOfLines(1994);
+        due("room of 6", today(x, 0, 1, 10), 0);
+        due("room of 3", x.bill(0, 1, 10, 0), 1);
+        due("room of 0", today(x, 0, 1, 10), -3);
+        due("room of 0, a bill", x.bill(0, 1, 10, 0), -3);
+        due("take", x.take(0, 0, 3), -3);
+        due("redeem", x.redeem(0), -3);
+        due("prolong", x.prolong(0), -3);
+        due("none of these did anything", x.count(6), 1994);
+        due("slip", x.slip(0, 0, 0), 0);
+        due("close", x.close(), 2);
+        due("lines", x.count(6), 1997);
+        due("room of 3", x.order(0, 1, 10, 11, 0), 2);
+        due("no room to put a line in", x.mend(0), false);
+        due("not put right", x.orderOf(0, 6), 0);
+        pass(x, 2);
+        due("room of 1", x.count(6), 1999);
+        due("is none for an order", today(x, 0, 1, 10), -3);
+        due("but for a line", x.mend(0), true);
+        due("all lines", x.count(6), 2000);
+    }
+
+    private static void lineWithoutRoom() {
+        CityBank x = bankOfLines(1997);
+        due("room of 3", x.prolong(0), 1);
+        due("room of 2 is none for an order", today(x, 0, 1, 10), -3);
+        due("room of 2", x.take(0, 0, 3), 1);
+        due("room of 1", x.redeem(2), 100100);
+        due("room of 0", x.redeem(0), -3);
+        CityBank y = bankOfLines(1999);
+        due("room of 1", y.prolong(0), 1);
+        due("room of 0", y.prolong(0), -3);
+        CityBank z = bankOfLines(1999);
+        due("room of 1", z.take(0, 0, 3), 1);
+        due("room of 0", z.take(0, 0, 3), -3);
     }
 
     private static void bill() {
@@ -635,6 +688,7 @@ public final class CityBankPromises {
         due("balance 2", x.balance(2), 60);
         due("day", x.count(0), 1);
         closeWithFines();
+        closeWithTheFirstTerms();
         closeWithAgio();
         closeUpToTheLastDay();
     }
@@ -666,6 +720,33 @@ public final class CityBankPromises {
         due("the whole balance goes", today(x, 0, 1, 32), 5);
         due("close", x.close(), 1);
         due("nothing is left", x.balance(0), 0);
+    }
+
+    private static void closeWithTheFirstTerms() {
+        CityBank x = bank(2);
+        bring(x, 0, 100);
+        x.close();
+        due("10 * -100 / 1100 = 0", x.count(8), 40);
+        bring(x, 0, 112);
+        x.close();
+        due("10 * -112 / 1112 = -1", x.count(8), 39);
+        long[] agio = {34, 30, 30};
+        for (int i = 0; i < 3; i++) {
+            bring(x, 0, 90000);
+            x.close();
+            due("STEP 5, LOW 30", x.count(8), agio[i]);
+        }
+        due("bought", x.sum(4), 1 + 5);
+        for (int i = 0; i < 7; i++) {
+            today(x, 0, 1, 30000);
+            x.close();
+        }
+        due("TOP 60", x.count(8), 60);
+        due("sold", x.sum(3), 5);
+        CityBank y = bank(1);
+        bring(y, 0, 1000);
+        due("LAPSE 180", y.receipt(0, 4), 180);
+        due("FEE 5", y.prolong(0), 5);
     }
 
     private static void closeWithAgio() {
@@ -781,6 +862,7 @@ public final class CityBankPromises {
         suspectsOfOdd();
         suspectsOfNines();
         suspectsOfOrdersAlone();
+        suspectsOfManyOrders();
     }
 
     private static void suspectsOfNone() {
@@ -884,6 +966,19 @@ public final class CityBankPromises {
         x.slip(4, 3, 2);
         x.close();
         due("books balance", x.suspects(2), -1);
+    }
+
+    private static void suspectsOfManyOrders() {
+        CityBank x = bank(2);
+        bring(x, 0, 3000);
+        for (int i = 0; i < 300; i++) {
+            today(x, 0, 1, 10);
+        }
+        x.slip(299, 0, 0);
+        due("close", x.close(), 300);
+        due("each debit is one", x.suspects(0), 300);
+        due("the last", x.suspect(299, 0), 599);
+        due("no more", x.suspect(300, 0), -1);
     }
 
     private static void suspect() {
