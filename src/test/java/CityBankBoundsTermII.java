@@ -103,6 +103,14 @@ public final class CityBankBoundsTermII extends Bounds {
         due("399 * 5 / 1000 is 1", x.redeem(3), 400);
         due("400 * 5 / 1000 is 2", x.redeem(4), 402);
         due("BALANCE", x.balance(0), 996);
+        due("FEES", x.sum(2), 4);
+        bring(x, 0, 100000, 99999);
+        bring(x, 0, 100000, 100000);
+        due("199999 * 5 / 1000 is 999", x.redeem(5), 200998);
+        due("FEES", x.sum(2), 1003);
+        bring(x, 0, 10000);
+        due("200000 * 5 / 1000 is 1000", x.redeem(6), 201000);
+        due("FEES", x.sum(2), 2003);
     }
 
     // Term II: "the coins, and their weight, go out of the VAULT"
