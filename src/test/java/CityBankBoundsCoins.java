@@ -467,6 +467,25 @@ public final class CityBankBoundsCoins extends Bounds {
         refused(x, "the VAULT is less", () -> x.redeem(0), -8);
     }
 
+    // Promise 7: "-7 ...; -3 ...", in this order
+    static void redeemTellsTheBalanceAheadOfTheRoom() {
+        CityBank x = bankOfLines(2000);
+        due("give", x.give(0, 1), 0);
+        refused(x, "BALANCE is less, no ROOM", () -> x.redeem(0), -7);
+        due("give back", x.give(0, 0), 0);
+        refused(x, "no ROOM", () -> x.redeem(0), -3);
+    }
+
+    // Promise 7: "-3: no ROOM; -8: ...", in this order
+    static void redeemTellsTheRoomAheadOfTheVault() {
+        CityBank x = bankOfLines(2000);
+        due("loan of all coins", x.loan(0, 2, 0), 0);
+        refused(x, "no ROOM, no coins", () -> x.redeem(0), -3);
+        CityBank y = bankOfLines(1999);
+        due("loan of all coins", y.loan(0, 2, 0), 0);
+        refused(y, "no coins", () -> y.redeem(0), -8);
+    }
+
     // ---- promise 8: prolong
 
     // Promise 8: "A RECEIPT is due LAPSE DAYS later"
@@ -534,6 +553,15 @@ public final class CityBankBoundsCoins extends Bounds {
         refused(x, "ROOM of 0", () -> x.prolong(0), -3);
     }
 
+    // Promise 8: "-7, -3 likewise.", in this order
+    static void prolongTellsTheBalanceAheadOfTheRoom() {
+        CityBank x = bankOfLines(2000);
+        due("give", x.give(0, 1), 0);
+        refused(x, "BALANCE is less, no ROOM", () -> x.prolong(0), -7);
+        due("give back", x.give(0, 0), 0);
+        refused(x, "no ROOM", () -> x.prolong(0), -3);
+    }
+
     // ---- promise 9: give
 
     // Promise 9: "A RECEIPT is another ACCOUNT's: 0."
@@ -594,6 +622,16 @@ public final class CityBankBoundsCoins extends Bounds {
         CityBank z = scales(95);
         due("least of one", z.weighed(0, 0, 0), 95);
         due("greatest of one", z.weighed(0, 0, 1), 95);
+    }
+
+    // Promise 17, the same sentence: of the coins in this row, not of others that were weighed ahead of it
+    static void weighedAnswersOfThisRowAlone() {
+        CityBank x = scales(90, 100);
+        fill(x, 1, 3, 94, 96);
+        due("least", x.weighed(0, 0, 0), 90);
+        due("least of the other row", x.weighed(0, 1, 0), 94);
+        due("greatest", x.weighed(0, 0, 1), 100);
+        due("greatest of the other row", x.weighed(0, 1, 1), 96);
     }
 
     // Promise 17: "2 how many it takes, 3 their weight together, 4 the BOOK of that."

@@ -186,6 +186,42 @@ public final class CityBankBoundsOrders extends Bounds {
         refused(y, "ROOM of 0", () -> y.bill(0, 1, 5, 0), -3);
     }
 
+    // Promise 11: "-2, -3 as order().", in this order
+    static void billTellsWhatIsNotAsToldAheadOf300() {
+        CityBank x = bank(2);
+        for (int order = 0; order < 300; order++) {
+            x.bill(0, 1, 5, 0);
+        }
+        refused(x, "bill of 1001 DAYS", () -> x.bill(0, 1, 5, 1001), -2);
+        refused(x, "bill of -1 DAYS", () -> x.bill(0, 1, 5, -1), -2);
+        refused(x, "bill on oneself", () -> x.bill(0, 0, 5, 0), -2);
+        refused(x, "bill of nothing", () -> x.bill(0, 1, 0, 0), -2);
+        refused(x, "bill as told", () -> x.bill(0, 1, 5, 1000), -3);
+    }
+
+    // Promise 11: "an ORDER of that DAY", though it be behind DAY 5000
+    static void aBillMayBeOfADayBehindTheLast() {
+        CityBank x = bank(2);
+        pass(x, 4999);
+        due("bill", x.bill(0, 1, 5, 1000), 0);
+        due("its DAY", x.orderOf(0, 2), 5999);
+        pass(x, 1);
+        due("it waits", x.orderOf(0, 4), 0);
+    }
+
+    // Promise 10: "of this DAY if the hour ... is below 11, else of the next one", on a late DAY too
+    static void anOrderOfALateDay() {
+        CityBank x = bank(2);
+        pass(x, 490);
+        due("order of hour 10", x.order(0, 1, 5, 10, 0), 0);
+        due("order of hour 11", x.order(0, 1, 5, 11, 0), 1);
+        due("DAY of hour 10", x.orderOf(0, 2), 490);
+        due("DAY of hour 11", x.orderOf(1, 2), 491);
+        x.close();
+        due("hour 10 is REFUSED", x.orderOf(0, 4), 3);
+        due("hour 11 waits", x.orderOf(1, 4), 0);
+    }
+
     // ---- promise 12: slip
 
     /** A bank of accounts 0 to 4 whose order 0, of 123 from 1 to 2, waits. */
@@ -270,6 +306,25 @@ public final class CityBankBoundsOrders extends Bounds {
             refused(x, "slip of one that waits no more, " + order, () -> x.slip(carriedOut, 0, 0), -2);
         }
         due("slip of one that waits", x.slip(3, 0, 0), 0);
+    }
+
+    // Promise 28: "5 its slip (NONE)", also of an ORDER that was REFUSED, or done, or put right
+    static void aSlipStaysTold() {
+        CityBank x = bankOfAnOrder();
+        due("order above the BALANCE", today(x, 1, 2, 5000), 1);
+        due("order of a wrong signer", x.order(1, 2, 5, 5, 0), 2);
+        int[] hows = {1, 2, 3};
+        for (int order = 0; order < 3; order++) {
+            due("slip", x.slip(order, hows[order], 0), 0);
+        }
+        due("close", x.close(), 1);
+        due("mend", x.mend(0), true);
+        int[] states = {1, 3, 2};
+        for (int order = 0; order < 3; order++) {
+            due("how ORDER " + order + " is", x.orderOf(order, 4), states[order]);
+            due("slip of ORDER " + order, x.orderOf(order, 5), hows[order]);
+            due("put right, ORDER " + order, x.orderOf(order, 6), order == 0 ? 1 : 0);
+        }
     }
 
     // ---- promise 13: close
@@ -364,6 +419,28 @@ public final class CityBankBoundsOrders extends Bounds {
         due("no more", x.suspect(301, 0), -1);
     }
 
+    // Promise 14, the same sentence: more SUSPECTS than there are ORDERS
+    static void suspectsFindsMoreThanThereAreOrders() {
+        CityBank x = bank(2);
+        bring(x, 0, 1000);
+        for (int order = 0; order < 300; order++) {
+            due("order", today(x, 0, 1, 1), order);
+            if (order < 149) {
+                x.slip(order, 1, 0);
+            } else if (order < 149 + 33) {
+                x.slip(order, 2, 0);
+            }
+        }
+        due("close", x.close(), 300);
+        // 149 are written twice as a debit, 33 as a credit of 10: D is 298 less 297, and each debit is of 1
+        due("suspects", x.suspects(0), 449);
+        for (int i = 0; i < 449; i++) {
+            due("LINE of SUSPECT " + i, x.suspect(i, 0), i < 298 ? 1 + i : 299 + 2 * (i - 298));
+            due("how of SUSPECT " + i, x.suspect(i, 1), 0);
+        }
+        due("no more", x.suspect(449, 0), -1);
+    }
+
     // Promise 14: "NONE: its books balance"
     static void suspectsAnswersNoneIfTheBooksBalance() {
         CityBank x = bankOfSuspects();
@@ -422,6 +499,20 @@ public final class CityBankBoundsOrders extends Bounds {
         due("SUSPECT 0", x.suspect(0, 0), -1);
     }
 
+    // Promise 15, the same sentence: whatever else is called, until there is a later one
+    static void suspectStaysWhateverElseIsCalled() {
+        CityBank x = bankOfSuspects();
+        due("suspects", x.suspects(0), 3);
+        bring(x, 0, 10);
+        today(x, 0, 1, 10);
+        x.close();
+        due("mend", x.mend(2), true);
+        due("LINE of SUSPECT 0", x.suspect(0, 0), 1);
+        due("LINE of SUSPECT 2", x.suspect(2, 0), 5);
+        due("how of SUSPECT 2", x.suspect(2, 1), 0);
+        due("no more", x.suspect(3, 0), -1);
+    }
+
     // ---- promise 16: mend
 
     // Promise 16: "its ACCOUNT, side and sum are what they should be, its FOLIO stays"
@@ -440,6 +531,24 @@ public final class CityBankBoundsOrders extends Bounds {
             due("LINES", x.count(6), 3);
             due("written", x.written(2), 123);
             due("BALANCE", x.balance(2), 123);
+        }
+    }
+
+    // Promise 16: "its FOLIO stays": the FOLIO of the wrong ACCOUNT has the LINE still, and is full as soon
+    static void mendLeavesFoliosAsFullAsTheyWere() {
+        CityBank x = bankOfAnOrder();
+        x.slip(0, 3, 4);
+        due("close", x.close(), 1);
+        due("mend", x.mend(0), true);
+        due("FOLIOS of who is paid", x.accountOf(2, 1), 0);
+        due("FOLIOS of the wrong ACCOUNT", x.accountOf(4, 1), 1);
+        for (int line = 2; line <= 9; line++) {
+            bring(x, 4, 1);
+            due("FOLIOS behind LINE " + line, x.accountOf(4, 1), line <= 8 ? 1 : 2);
+        }
+        for (int line = 1; line <= 9; line++) {
+            bring(x, 2, 1);
+            due("FOLIOS of who is paid behind LINE " + line, x.accountOf(2, 1), line <= 8 ? 1 : 2);
         }
     }
 
@@ -543,5 +652,17 @@ public final class CityBankBoundsOrders extends Bounds {
         due("LINES", y.count(6), 1997);
         due("an ORDER that keeps 3 of the ROOM of 3", y.order(0, 1, 5, 11, 0), 1);
         refused(y, "ROOM of 0", () -> y.mend(0));
+    }
+
+    // Promise 16, the same sentence: a LINE that is there needs no ROOM to be put right (Term II: "a call that writes a LINE")
+    static void mendOfALineThatIsThereNeedsNoRoom() {
+        CityBank x = bankOfLines(1995);
+        today(x, 0, 1, 5);
+        x.slip(0, 1, 0);
+        due("close", x.close(), 1);
+        due("an ORDER that keeps all of the ROOM of 3", x.order(0, 1, 5, 11, 0), 1);
+        refused(x, "ROOM of 0", () -> x.prolong(0), -3);
+        due("mend", x.mend(0), true);
+        due("side", x.line(1996, 3), 1);
     }
 }

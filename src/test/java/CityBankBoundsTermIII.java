@@ -126,6 +126,19 @@ public final class CityBankBoundsTermIII extends Bounds {
         due("the last DAY's", x.orderOf(1, 4), 1);
     }
 
+    // Term III, the same sentence: who is ATTORNEY is asked as the ORDER is carried out too
+    static void theAttorneyIsTheOneAsTheOrderIsCarriedOut() {
+        CityBank x = bank(2);
+        bring(x, 0, 100);
+        x.attorney(0, 50, 5000);
+        due("signed by who is ATTORNEY now", x.order(0, 1, 5, 5, 50), 0);
+        due("signed by who will be", x.order(0, 1, 5, 5, 60), 1);
+        x.attorney(0, 60, 5000);
+        due("close", x.close(), 1);
+        due("who was ATTORNEY", x.orderOf(0, 4), 2);
+        due("who is", x.orderOf(1, 4), 1);
+    }
+
     // Term III: "else REFUSED, if its BALANCE is below the sum"
     static void ordersAboveTheBalanceAreRefused() {
         CityBank x = bank(2);
@@ -170,6 +183,21 @@ public final class CityBankBoundsTermIII extends Bounds {
         fineOf(30, 67, 2);
         fineOf(30, 99, 2);
         fineOf(30, 100, 3);
+    }
+
+    // Term III, the same sentence: FINE is the one of the TERMS as the DAY is closed
+    static void aFineIsByTheTermsOfTheClosing() {
+        CityBank x = bank(2);
+        bring(x, 0, 500);
+        due("order", today(x, 0, 1, 1000), 0);
+        x.terms(1000, 5, 180, 20, 10, 5, 30, 60);
+        due("close", x.close(), 0);
+        due("FINE of 20 parts", x.balance(0), 300);
+        x.terms(1000, 5, 180, 0, 10, 5, 30, 60);
+        due("order", today(x, 0, 1, 1000), 1);
+        due("close", x.close(), 0);
+        due("no FINE", x.balance(0), 300);
+        due("FINES", x.sum(2), 200);
     }
 
     // Term III: "but at most the BALANCE"

@@ -69,6 +69,23 @@ public final class CityBankBoundsTermsIVAndV extends Bounds {
         due("its BOOK", x.gap(0, 0), 119990000000L);
     }
 
+    // Term IV, the same sentence: coins of which no weight is left can be lent too
+    static void loanOfCoinsWithoutWeight() {
+        CityBank x = bank(1);
+        x.terms(1000, 0, 180, 3, 10, 5, 30, 60);
+        bring(x, 0, 51);
+        bring(x, 0, 1, 1, 1);
+        due("loan: 54 * 2 / 4", x.loan(0, 2, 0), 0);
+        bring(x, 0, 24);
+        due("weight", x.vault(0, 1), 51);
+        due("redeem of all that weight", x.redeem(0), 51);
+        due("coins", x.vault(0, 0), 2);
+        due("weight", x.vault(0, 1), 0);
+        due("loan", x.loan(0, 2, 1), 1);
+        due("coins", x.vault(0, 0), 0);
+        due("gap", x.gap(0, 0), 0);
+    }
+
     // Term IV: "its BOOK (by RATE then)"
     static void theBookOfALoanIsByRateThen() {
         CityBank x = bank(1);
@@ -153,6 +170,60 @@ public final class CityBankBoundsTermsIVAndV extends Bounds {
         x.slip(x.count(3) - 1, 0, 0);
         x.close();
         due("B of 2, a slip is nothing to it: 2000 / 1002", x.count(8), 43);
+    }
+
+    // Term V, the same sentence: the sums are those of the ORDERS, whatever the clerk wrote
+    static void bIsOfWhatWasOrdered() {
+        int[][] slips = {{0, 0}, {1, 0}, {2, 0}, {2, 3}, {3, 2}};
+        for (int[] slip : slips) {
+            CityBank x = settledBank(3, 90000);
+            x.terms(1000, 5, 180, 0, 1000, 100, -100, 300);
+            today(x, 0, 1, 20);
+            due("slip", x.slip(0, slip[0], slip[1]), 0);
+            due("close", x.close(), 1);
+            due("B of 20 with a slip by " + slip[0] + ": 20000 / 1020", x.count(8), 59);
+            due("mend", x.mend(0), true);
+            x.close();
+            due("B of 0, though it is mended on this DAY", x.count(8), 59);
+        }
+    }
+
+    // Term V: B and C are of ORDERS done and of coins taken, so nothing else that is done on a DAY moves AGIO
+    static void nothingElseMovesAgio() {
+        CityBank x = pulledBank();
+        x.terms(1000, 100, 180, 0, 1000, 100, -100, 300);
+        due("prolong", x.prolong(0), 9000);
+        due("give", x.give(0, 1), 0);
+        due("give back", x.give(0, 0), 0);
+        x.attorney(0, 5, 5000);
+        x.bill(0, 1, 500, 1);
+        x.close();
+        due("FEES, gifts and bills of a later DAY", x.count(8), 40);
+        x.close();
+        due("the bill is done: 500000 / 1500", x.count(8), 140);
+        due("loan", x.loan(0, 1, 1), 0);
+        due("tell", x.tell(0, 5), true);
+        due("run", x.run(1), 0);
+        x.close();
+        due("LOANS", x.count(8), 140);
+        x.terms(1000, 5, 180, 100, 1000, 100, -100, 300);
+        today(x, 0, 1, 90000);
+        due("close", x.close(), 0);
+        due("a FINE of all that it had", x.sum(2), 9000 + 80500);
+        due("FINES", x.count(8), 140);
+    }
+
+    // Term V: "on this DAY": one on which AGIO can't move is over too
+    static void bAndCAreOfThisDayThoughAgioStood() {
+        CityBank x = pulledBank();
+        x.terms(1000, 5, 180, 0, 1000, 0, -100, 300);
+        today(x, 0, 1, 500);
+        bring(x, 0, 9);
+        x.close();
+        due("by STEP 0", x.count(8), 40);
+        x.terms(1000, 5, 180, 0, 1000, 100, -100, 300);
+        x.close();
+        due("B and C of the next DAY", x.count(8), 40);
     }
 
     // Term V: "C the BOOK of coins taken, on this DAY"

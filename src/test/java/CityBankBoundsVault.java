@@ -221,4 +221,37 @@ public final class CityBankBoundsVault extends Bounds {
         due("prolong, for a FEE of 1", x.prolong(0), 1);
         due("what is wanted is 1 less too", x.run(100), -1);
     }
+
+    // Promise 21, the same sentence: also if it has more than that
+    static void runIsNoneIfThereIsMoreThanEnough() {
+        CityBank x = bank(2);
+        bring(x, 0, 1000);
+        due("prolong, for a FEE of 5", x.prolong(0), 5);
+        due("995 are wanted of 1000", x.run(10), -1);
+        x.terms(1001, 5, 180, 3, 10, 5, 30, 60);
+        due("of 1001", x.run(10), -1);
+        x.terms(995, 5, 180, 3, 10, 5, 30, 60);
+        due("of 995", x.run(10), -1);
+        x.terms(994, 5, 180, 3, 10, 5, 30, 60);
+        due("of 994", x.run(10), 100);
+    }
+
+    private static CityBank bankOfWrongBooks(int place, long written) {
+        CityBank x = bank(2);
+        bring(x, 0, 1000);
+        today(x, 0, 1, 100);
+        x.slip(0, 2, place);
+        due("close", x.close(), 1);
+        due("written of both", x.written(0) + x.written(1), written);
+        return x;
+    }
+
+    // Promise 21: "all want coin for what they have": by their BALANCES, not by what clerks wrote
+    static void runIsOfBalances() {
+        CityBank less = bankOfWrongBooks(1, 900 + 10);
+        less.terms(950, 5, 180, 3, 10, 5, 30, 60);
+        due("1000 are wanted of 950, 910 are written", less.run(10), 95);
+        CityBank more = bankOfWrongBooks(2, 900 + 1000);
+        due("1000 are wanted of 1000, 1900 are written", more.run(10), -1);
+    }
 }
